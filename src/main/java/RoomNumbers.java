@@ -17,6 +17,11 @@ public final class RoomNumbers {
     private static final int MAX_PROCESSES = 12;
     private static final int MAX_FILES = 20;
 
+    private static final int OWNER_READS = 1;
+    private static final int OWNER_WRITES = 2;
+    private static final int OTHERS_READ = 4;
+    private static final int OTHERS_WRITE = 8;
+
     private static final int RIGHT_MISSING = -1;
     private static final int NOT_SEEN = -2;
     private static final int NOT_TOLD_BY_MAP = -3;
@@ -102,7 +107,9 @@ public final class RoomNumbers {
         if (!allLeadOut(lines, outer)) {
             return refuse(NOT_SEEN);
         }
-        boolean needsNoRight = writer.number == mapped.owner && mapsAlone(lines, outer, mapped.owner);
+        boolean needsNoRight = lines.isOfOneNumber()
+                && writer.number == mapped.owner
+                && leadOut(outer, lines.outer) == writer.number;
         if (!needsNoRight && !writer.hasRight(SETNUMBER, outer)) {
             return refuse(RIGHT_MISSING);
         }
@@ -115,15 +122,14 @@ public final class RoomNumbers {
     }
 
     public int outerOf(int room) throws IndexOutOfBoundsException {
-        Room outer = roomAt(room).outer;
-        return outer == null ? NONE : outer.number;
+        return numberOrNone(roomAt(room).outer);
     }
 
     public int leadsTo(int room, int number)
             throws IndexOutOfBoundsException, IllegalArgumentException {
         Room from = roomAt(room);
         requireNumber(number);
-        return from.leadOut(number);
+        return leadOut(from, number);
     }
 
     public int seenAs(int room, int outermost)
@@ -138,7 +144,7 @@ public final class RoomNumbers {
         Room from = roomAt(room);
         requireNumber(outermost);
         for (int number = 0; number <= HIGHEST_NUMBER; number++) {
-            if (from.leadOut(number) == outermost) {
+            if (leadOut(from, number) == outermost) {
                 return number;
             }
         }
@@ -171,7 +177,7 @@ public final class RoomNumbers {
     public int enter(int process, int room) throws IndexOutOfBoundsException {
         HouseProcess guest = processAt(process);
         Room entered = roomAt(room);
-        if (!entered.isInside(guest.room)) {
+        if (!isOrIsInside(entered.outer, guest.room)) {
             return refuse(NOT_INSIDE);
         }
         if (!guest.hasRight(ADMIN, entered)) {
@@ -185,7 +191,7 @@ public final class RoomNumbers {
             throws IndexOutOfBoundsException, IllegalArgumentException {
         HouseProcess taker = processAt(process);
         requireNumber(number);
-        int taken = taker.room.leadOut(number);
+        int taken = leadOut(taker.room, number);
         if (taken == NONE) {
             return refuse(NOT_SEEN);
         }
@@ -204,7 +210,7 @@ public final class RoomNumbers {
     }
 
     public int roomOf(int process) throws IndexOutOfBoundsException {
-        return processAt(process).room.number;
+        return numberOrNone(processAt(process).room);
     }
 
     public int numberOf(int process) throws IndexOutOfBoundsException {
@@ -241,7 +247,7 @@ public final class RoomNumbers {
         HouseProcess giver = processAt(process);
         HouseFile given = fileAt(file);
         requireNumber(number);
-        int newOwner = giver.room.leadOut(number);
+        int newOwner = leadOut(giver.room, number);
         if (newOwner == NONE || seenFrom(giver.room, given.owner) == NOBODY) {
             return refuse(NOT_SEEN);
         }
@@ -335,7 +341,7 @@ public final class RoomNumbers {
     private int seenFrom(Room room, int outermost) {
         int seen = outermost;
         for (Room passed : roomRow) {
-            if (passed != null && room.isOrIsInside(passed)) {
+            if (passed != null && isOrIsInside(room, passed)) {
                 seen = passed.fromOuter(seen);
             }
         }
@@ -364,7 +370,7 @@ public final class RoomNumbers {
     private static boolean allLeadOut(Line lines, Room outer) {
         for (Line each = lines; each != null; each = each.next) {
             for (int k = 0; k < each.length; k++) {
-                if (outer.leadOut(each.outer + k) == NONE) {
+                if (leadOut(outer, each.outer + k) == NONE) {
                     return false;
                 }
             }
@@ -372,10 +378,26 @@ public final class RoomNumbers {
         return true;
     }
 
-    private static boolean mapsAlone(Line lines, Room outer, int outermost) {
-        return lines.next == null
-                && lines.length == 1
-                && outer.leadOut(lines.outer) == outermost;
+    /** Leads a number of a room out, and answers NONE if it leads nowhere. */
+    private static int leadOut(Room room, int number) {
+        int led = number;
+        for (Room at = room; at != null && led != NONE; at = at.outer) {
+            led = at.toOuter(led);
+        }
+        return led;
+    }
+
+    private static boolean isOrIsInside(Room room, Room other) {
+        for (Room at = room; at != null; at = at.outer) {
+            if (at == other) {
+                return true;
+            }
+        }
+        return false;
+    }
+
+    private static int numberOrNone(Room room) {
+        return room == null ? NONE : room.number;
     }
 
     /** A line of a map, and the lines beside it. */
@@ -390,6 +412,10 @@ public final class RoomNumbers {
             this.outer = outer;
             this.length = length;
             this.next = next;
+        }
+
+        boolean isOfOneNumber() {
+            return next == null && length == 1;
         }
 
         boolean meets(Line other) {
@@ -413,27 +439,6 @@ public final class RoomNumbers {
             this.outer = outer;
             this.owner = owner;
             this.map = null;
-        }
-
-        boolean isInside(Room other) {
-            return outer != null && outer.isOrIsInside(other);
-        }
-
-        boolean isOrIsInside(Room other) {
-            for (Room at = this; at != null; at = at.outer) {
-                if (at == other) {
-                    return true;
-                }
-            }
-            return false;
-        }
-
-        int leadOut(int inner) {
-            int led = inner;
-            for (Room at = this; at != null && led != NONE; at = at.outer) {
-                led = at.toOuter(led);
-            }
-            return led;
         }
 
         int toOuter(int inner) {
@@ -482,7 +487,7 @@ public final class RoomNumbers {
             if (ownsRoomAround(asked)) {
                 return ALL_RIGHTS;
             }
-            return asked.isOrIsInside(room) ? rights : 0;
+            return isOrIsInside(asked, room) ? rights : 0;
         }
 
         boolean hasRight(int right, Room asked) {
@@ -510,9 +515,9 @@ public final class RoomNumbers {
         }
 
         boolean allows(int user, boolean writes) {
-            int ownerBit = writes ? 2 : 1;
-            int asked = user == owner ? ownerBit : ownerBit << 2;
-            return (mode & asked) != 0;
+            int asOwner = writes ? OWNER_WRITES : OWNER_READS;
+            int asOther = writes ? OTHERS_WRITE : OTHERS_READ;
+            return (mode & (user == owner ? asOwner : asOther)) != 0;
         }
     }
 }
