@@ -6,23 +6,25 @@ final class Check {
 
     private static int wrong = 0;
     private static int looked = 0;
+    private static String sentence = "";
 
     private Check() {
     }
 
+    /** Told beside what is wrong from here on: the promise, and the sentence of it in short. */
+    static void sentence(String words) {
+        sentence = " (" + words + ")";
+    }
+
     static void due(String what, long want, long got) {
-        looked++;
-        if (got != want) {
-            wrong++;
-            System.out.println(what + " answered " + got + ", due is " + want);
-        }
+        due(what, Long.toString(want), Long.toString(got));
     }
 
     static void due(String what, String want, String got) {
         looked++;
         if (!got.equals(want)) {
             wrong++;
-            System.out.println(what + " answered " + got + ", due is " + want);
+            System.out.println(what + " answered " + got + ", due is " + want + sentence);
         }
     }
 

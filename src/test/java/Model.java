@@ -41,6 +41,18 @@ final class Model {
         }
     }
 
+    int rooms() {
+        return rooms;
+    }
+
+    int processes() {
+        return processes;
+    }
+
+    int files() {
+        return files;
+    }
+
     /** A call by its place in the document's face. */
     int call(int which, int a, int b, int c) {
         switch (which) {

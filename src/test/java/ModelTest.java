@@ -37,7 +37,7 @@ public final class ModelTest {
         StringBuilder told = new StringBuilder();
         for (int n = 0; n < calls; n++) {
             int which = drawnCall();
-            int[] p = arguments(which, run % 3, x);
+            int[] p = arguments(which, run % 3, model);
             String want = Check.answerOf(() -> model.call(which, p[0], p[1], p[2]));
             String got = Check.answerOf(() -> call(x, which, p[0], p[1], p[2]));
             String what = NAMES[which] + Arrays.toString(p);
@@ -79,14 +79,15 @@ public final class ModelTest {
         }
     }
 
-    private static int[] arguments(int which, int kind, RoomNumbers x) {
-        int process = draw(x.processes());
-        int room = draw(x.rooms());
-        int file = draw(Math.max(1, x.files()));
+    /** Drawn by the model's counts, as asking the house would be more than its 512 calls. */
+    private static int[] arguments(int which, int kind, Model model) {
+        int process = draw(model.processes());
+        int room = draw(model.rooms());
+        int file = draw(Math.max(1, model.files()));
         int[] p = {process, 0, 0};
         switch (which) {
             case 1: p = drawnLine(kind); break;
-            case 2: p[1] = draw(2) == 0 ? x.rooms() - 1 : room; break;
+            case 2: p[1] = draw(2) == 0 ? model.rooms() - 1 : room; break;
             case 4: p[0] = room; break;
             case 5: case 6: case 7: p = new int[] {room, drawnNumber(kind), 0}; break;
             case 9: p[1] = draw(3) == 0 ? draw(16) : 1 << draw(4); break;
