@@ -1,4 +1,4 @@
-/** Files, promises 18 to 24, at the edges that the document names: a test for each sentence. */
+/** Promises 18 to 24 at the edges that the document names: a test for each sentence. */
 public final class FileEdgesTest {
     public static void main(String[] args) {
         upTo20Files();
@@ -65,8 +65,8 @@ public final class FileEdgesTest {
     }
 
     private static void whoIsTheOwner() {
-        Check.sentence("for the owner, when its number is that of the owner, or for others, when it "
-                + "is another one");
+        Check.sentence("for the owner, when its number is that of the owner, or for others, when "
+                + "it is another one");
         RoomNumbers x = new RoomNumbers();
         x.makeFile(0, 1);
         x.makeFile(0, 4);
@@ -289,8 +289,8 @@ public final class FileEdgesTest {
     }
 
     private static void theModeAndNoOverride() {
-        Check.sentence("20: It is refused with -6 if the mode does not allow it and it does not have "
-                + "OVERRIDE in its room");
+        Check.sentence("20: It is refused with -6 if the mode does not allow it and it does not "
+                + "have OVERRIDE in its room");
         RoomNumbers x = Houses.mapped();
         x.makeFile(0, 4);
         x.makeFile(0, 0);

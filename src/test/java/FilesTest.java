@@ -209,7 +209,9 @@ public final class FilesTest {
         Check.due("handOver", -1, x.lastRefusal());
         Check.noSuch("open of no file", () -> x.open(0, 1, true));
         Check.due("an exception leaves it", -1, x.lastRefusal());
-        Check.due("questions that answer below 0 leave it", -1, x.outerOf(0) + x.leadsTo(1, 99) + 1);
+        Check.due("a question that answers below 0", -1, x.outerOf(0));
+        Check.due("another one", -1, x.leadsTo(1, 99));
+        Check.due("questions leave it", -1, x.lastRefusal());
         Check.due("refusals", 6, x.refusals());
     }
 

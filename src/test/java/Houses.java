@@ -39,9 +39,9 @@ final class Houses {
 
     /**
      * Someone for each refusal. The rooms: 1 in 0 with 100 to 109 as 0 to 9, 2 in 1 and 3 in 0
-     * without maps, 3 owned by 105, the others by 0. The processes: 0 in the room 0 with all rights,
-     * 1 in 2, 2 in 3 with the number 105, 3 in 0 with CHOWN and SETNUMBER, 4 in 0 without rights,
-     * 5 in 1. The files: 0 of 0, 1 of 105. The latest refusal is -5.
+     * without maps, 3 owned by 105, the others by 0. The processes: 0 in the room 0 with all
+     * rights, 1 in 2, 2 in 3 with the number 105, 3 in 0 with CHOWN and SETNUMBER, 4 in 0 without
+     * rights, 5 in 1. The files: 0 of 0, 1 of 105. The latest refusal is -5.
      */
     static RoomNumbers peopled() {
         RoomNumbers x = mapped();

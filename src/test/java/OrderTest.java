@@ -99,7 +99,8 @@ public final class OrderTest {
     }
 
     private static void exceptionsInTheirOrder() {
-        Check.sentence("If several apply, the one that is named first in the throws clause is thrown.");
+        Check.sentence("If several apply, the one that is named first in the throws clause is "
+                + "thrown.");
         RoomNumbers x = Houses.full();
         order("makeRoom, no process, 10 rooms", NO_SUCH, () -> x.makeRoom(12));
         order("makeRoom, 10 rooms", FULL, () -> x.makeRoom(0));

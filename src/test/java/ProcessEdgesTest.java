@@ -1,4 +1,4 @@
-/** Processes, promises 10 to 17, at the edges that the document names: a test for each sentence. */
+/** Promises 10 to 17 at the edges that the document names: a test for each sentence. */
 public final class ProcessEdgesTest {
     public static void main(String[] args) {
         upTo12Processes();
@@ -123,8 +123,9 @@ public final class ProcessEdgesTest {
     }
 
     private static void ownerOfARoomInItsRoom() {
-        Check.sentence("or if its number is that of the owner of a room whose outer room is the one "
-                + "of the process, and that room is the one that is asked, or it is inside that");
+        Check.sentence("or if its number is that of the owner of a room whose outer room is the "
+                + "one of the process, and that room is the one that is asked, or it is inside "
+                + "that");
         for (int in = 0; in < 10; in++) {
             RoomNumbers x = ownerIn(in);
             for (int asked = 0; asked < 10; asked++) {
@@ -263,7 +264,7 @@ public final class ProcessEdgesTest {
     }
 
     private static void theRightsThatItHasThen() {
-        Check.sentence("11: rights: those that it has no more; returns the rights that it has then");
+        Check.sentence("11: those that it has no more; returns the rights that it has then");
         for (int first = 0; first <= 15; first++) {
             for (int second = 0; second <= 15; second++) {
                 RoomNumbers x = new RoomNumbers();
@@ -356,7 +357,7 @@ public final class ProcessEdgesTest {
     }
 
     private static void thereThenWithAllRights() {
-        Check.sentence("12: it is there then, with all rights; returns the rights that it has then");
+        Check.sentence("12: there then, with all rights; returns the rights that it has then");
         RoomNumbers x = Houses.peopled();
         x.fork(0);
         Check.due("ADMIN alone", 1, x.drop(6, 14));
@@ -449,8 +450,8 @@ public final class ProcessEdgesTest {
     }
 
     private static void seenAs0AndAnotherOne() {
-        Check.sentence("13: If it was seen as 0 from its room, and the number is another one, it has "
-                + "no rights then.");
+        Check.sentence("13: If it was seen as 0 from its room, and the number is another one, it "
+                + "has no rights then.");
         int[][] steps = {{0, 0, 15}, {0, 1, 0}, {0, 9, 0}, {1, 0, 15}, {1, 2, 15}, {9, 9, 15}};
         for (int[] s : steps) {
             RoomNumbers x = Houses.mapped();

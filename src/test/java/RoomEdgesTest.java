@@ -1,4 +1,4 @@
-/** Rooms and maps, promises 1 to 9, at the edges that the document names: a test for each sentence. */
+/** Promises 1 to 9 at the edges that the document names: a test for each sentence. */
 public final class RoomEdgesTest {
     public static void main(String[] args) {
         aNewHouseIsEmpty();
@@ -437,7 +437,8 @@ public final class RoomEdgesTest {
         Check.noSuch("writeMap of the room 0", () -> x.writeMap(0, 0));
         Edges.noSuch("writeMap with 2 rooms", 1, room -> x.writeMap(0, room));
         Edges.noSuch("writeMap of the process", 1, process -> x.writeMap(process, 1));
-        Edges.noSuch("writeMap of the room 0, and the process", 1, process -> x.writeMap(process, 0));
+        Edges.noSuch("writeMap of the room 0, and the process", 1,
+                process -> x.writeMap(process, 0));
         Check.due("no refusal", 0, x.refusals());
         Check.due("the line is there still", 1, x.writeMap(0, 1));
         RoomNumbers y = Houses.full();
@@ -561,7 +562,8 @@ public final class RoomEdgesTest {
     }
 
     private static void leadsNowhereFromTheOuterRoom() {
-        Check.sentence("4: with -2 if some outer number of a line leads nowhere from the outer room");
+        Check.sentence("4: with -2 if some outer number of a line leads nowhere from the outer "
+                + "room");
         int[][] lines = {
             {100, 10, 1, -2}, {100, 9, 1, 1}, {100, 9, 2, -2}, {100, 8, 2, 1}, {100, 0, 10, 1},
             {100, 0, 11, -2}, {100, 19, 1, -2}, {100, 20, 1, 1}, {100, 19, 2, -2}, {100, 20, 5, 1},

@@ -52,7 +52,7 @@ final class Twins {
         };
     }
 
-    /** Each probe has twins of its own, as a probe may change its house, and has 512 calls alone. */
+    /** Each probe has twins of its own, as it may change its house, and has 512 calls alone. */
     private static void alike(String what, House one, House other) {
         for (Probe probe : PROBES) {
             StringBuilder due = new StringBuilder();
